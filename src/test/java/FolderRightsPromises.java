@@ -817,6 +817,17 @@ public final class FolderRightsPromises {
         due("20 no such group below 0", MISSING, () -> x.in(-1, 0));
         due("20 no such user", MISSING, () -> x.in(0, 24));
         due("20 no such user below 0", MISSING, () -> x.in(0, -1));
+        FolderRights y = new FolderRights();
+        y.group();
+        y.group();
+        y.group();
+        y.join(1, 0, true);
+        y.join(0, 2, true);
+        y.join(0, 0, false);
+        due("20 by group 0", true, () -> y.in(1, 0));
+        y.leave(0, 0, false);
+        y.join(2, 0, false);
+        due("20 through group 0", true, () -> y.in(1, 0));
     }
 
     private static void promise21About() {
