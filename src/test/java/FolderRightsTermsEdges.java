@@ -37,6 +37,7 @@ public final class FolderRightsTermsEdges {
         renewedByNothingElse();
         missingBeforeArgument();
         argumentBeforeState();
+        changesNothing();
         Edges.end();
     }
 
@@ -564,7 +565,7 @@ public final class FolderRightsTermsEdges {
         Edges.due("remove", List.of(), removed, y -> Edges.staleOnes(y));
     }
 
-    // ---- exceptions; that such a call changes nothing is shown with each refused call
+    // ---- exceptions
 
     private static void missingBeforeArgument() {
         Edges.sentence("NoSuchElementException: there is no such user, group, node or entry."
@@ -606,6 +607,27 @@ public final class FolderRightsTermsEdges {
         Edges.refused("entry, twelve, no user", Edges.MISSING, FolderRightsTermsEdges::twelveEntries,
             y -> y.entry(0, 12, true, 2, false, 1, Edges.HERE));
         Edges.refused("join, itself, no such group", Edges.MISSING, Edges::office, y -> y.join(3, 3, true));
+    }
+
+    /** Each refused call shows this for itself; here one after the other, on one object. */
+    private static void changesNothing() {
+        Edges.sentence("Such a call changes nothing.");
+        List<Edges.Call> refused = List.of(
+            y -> y.join(3, 0, false), y -> y.join(1, 0, true), y -> y.leave(0, 5, false),
+            y -> y.node(6, true, 0), y -> y.node(4, true, 0),
+            y -> y.move(6, 0), y -> y.move(1, 3), y -> y.move(0, 1),
+            y -> y.remove(6), y -> y.remove(0), y -> y.remove(1),
+            y -> y.entry(0, 0, false, 5, false, 255, EVERYWHERE), y -> y.entry(0, 3, false, 3, false, 255, EVERYWHERE),
+            y -> y.entry(0, 0, false, 3, false, 256, EVERYWHERE), y -> y.entry(0, 0, false, 3, false, 255, Edges.NEXT),
+            y -> y.dropEntry(0, 2), y -> y.block(6, true), y -> y.owner(0, 5), y -> y.rights(5, 0),
+            y -> y.explain(0, 0, 8, 0), y -> y.who(0, 0, -1), y -> y.where(0, 0, -1), y -> y.same(0, 6),
+            y -> y.in(0, 5), y -> y.about(0, 8), y -> y.count(5));
+        Edges.refused("all of them", Edges.ARGUMENT, Edges::office, y -> {
+            for (int i = 0; i < refused.size(); i++) {
+                Edges.dueRefused("call " + i, y, refused.get(i));
+            }
+            return y.count(-1);
+        });
     }
 
     /** A chain whose node at depth 20 is a document, and folder 21 in the root. */

@@ -58,6 +58,12 @@ final class Edges {
         compare(what, want, outcome(x, call));
     }
 
+    /** The call is refused, by whichever of the three exceptions. */
+    static void dueRefused(String what, FolderRights x, Call call) {
+        Object got = outcome(x, call);
+        compare(what + " is refused", true, List.of(MISSING, ARGUMENT, STATE).contains(got));
+    }
+
     /** The call is refused, and leaves an object as one on which it never was made. */
     static void refused(String what, Class<?> want, Made made, Call call) {
         due(what, want, made.make(), call);
